@@ -174,11 +174,11 @@ public final class ModelTest {
   }
 
   private void run() {
-    spread = 1 + any(10);
+    spread = any(4) == 0 ? 10 : 2 + any(4);
     boolean bare = any(30) == 0;
     if (any(2) == 0) { tell(lawText()); call("law"); call("fault"); }
     if (!bare) { tell(storeText(true)); call("store"); call("fault"); }
-    if (any(2) == 0) call("keep", any(4));
+    if (any(2) == 0) call("keep", any(2));
     lookAtAll();
     for (int i = 0; i < ACTS; i++) {
       act();

@@ -379,6 +379,19 @@ public final class PromiseTest {
     blame("blame 5 if only or only or age<1", 15);
     blame("blame 5 if ((((((age<1))))))", 15);
     blame("blame 5 if (age<1) and (((((age<1)))))", 15);
+    blame("blame 5 if " + repeated("only or age<1 and (", 6) + "only or age<1 and 1+1<3" + repeated(")", 6), 15);
+    blame("blame 5 if " + repeated("only or age<1 and (", 6) + "only or age<1 and 1+1<2" + repeated(")", 6), 10);
+    blame("blame 5 if not(not(not(only or age<1 and only)))", 15);
+    // Each tick of a lone client is a stamp more: behind 101 of them stamp is 1 again, age is not.
+    SerialGate old = of("client", "blame 5 if stamp>0 and stamp<2;blame 20 if age>99;blame 40 if stamp>1");
+    old.ticks(60);
+    old.ticks(41);
+    due(old.slot(0, 10), 15);
+    tell(old, "client");
+    old.store();
+    for (int i = 0; i < 50; i++) old.commit(old.begin(1));
+    due(old.count(5), 201);
+    due(old.slot(0, 10), 35);
     SerialGate y = of("client;client only", "pay 7 if only;pay 30 if not only;blame 1");
     y.begin(0);
     y.begin(1);
