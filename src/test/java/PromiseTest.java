@@ -594,18 +594,20 @@ public final class PromiseTest {
     due(one.ticks(60), 15);
     due(one.key(7, 0), 15);
     due(one.count(7), 15);
-    // A step that waits does nothing: client 0 has slot 0 and key 1, all others wait for it.
-    SerialGate waits = of("client writes 1");
+    // A step that waits does nothing: key 1 is client 0's, and from this seed the draw chooses client 1.
+    SerialGate waits = of("client writes 1;client writes 1");
     waits.begin(0);
     waits.write(0, 1);
-    tell(waits, "client writes 1");
-    waits.store();
     waits.begin(1);
     due(waits.client(1, 6), 201);
-    waits.seed(5758 << 16);
-    int stamp = waits.count(5);
-    waits.ticks(1);
-    due(waits.count(5) + waits.slot(1, 6), waits.key(1, 4) == 0 ? stamp : stamp + 1);
+    int seed = 1;
+    while ((1103515245 * seed + 12345 >>> 16) % 2 == 0) seed++;
+    waits.seed(seed);
+    due(waits.ticks(1), 0);
+    due(waits.count(5), 2);
+    due(waits.slot(1, 6), 0);
+    due(waits.client(1, 6), 201);
+    due(waits.client(0, 6), 300);
   }
 
   private static void begin() {
@@ -982,7 +984,7 @@ public final class PromiseTest {
     int[] rounds = {0, 0, 1, 1};
     for (int i = 0; i < 4; i++) due(x.client(i, 7), rounds[i]);
     // A path 0 - 3 - 2 - 1: the first fit, 0 and 1 together, would need a third round.
-    SerialGate y = of("client writes 0;client writes 1;client writes 2 reads 1".replace("writes 2 reads 1", "reads 1 writes 2") + ";client reads 0 2");
+    SerialGate y = of("client writes 0;client writes 1;client reads 1 writes 2;client reads 0 2");
     due(y.rounds(), 2);
     int[] other = {0, 1, 0, 1};
     for (int i = 0; i < 4; i++) due(y.client(i, 7), other[i]);
