@@ -16,6 +16,7 @@ public final class SerialGate {
     private static final int MOST_ODDS = 5;
     private static final int LAST_SEED = 6;
     private static final int ROWS_TO_ASK = 20;
+    private static final int MOST_WRONG = 1;
 
     private final Tape tape = new Tape();
     private final Law law = new Law();
@@ -404,7 +405,8 @@ public final class SerialGate {
     public int likely() throws IllegalArgumentException {
         boolean told = tape.tellsRows();
         int best = NONE;
-        int fewest = Tape.MOST;
+        // Only those that fit can be likely.
+        int fewest = MOST_WRONG + 1;
         for (int i = 0; told && i < world.clients.count; i++) {
             int wrong = wrongRows(i);
             if (wrong < fewest) {
@@ -439,7 +441,7 @@ public final class SerialGate {
     private int fittingClients() {
         int bits = 0;
         for (int i = 0; i < world.clients.count; i++) {
-            if (wrongRows(i) <= 1) {
+            if (wrongRows(i) <= MOST_WRONG) {
                 bits |= 1 << i;
             }
         }

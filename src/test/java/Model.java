@@ -778,11 +778,10 @@ final class Model {
 
   int likely() {
     int[][] rows = rows();
-    int best = NONE;
-    for (int i = state.clients.size() - 1; i >= 0; i--) {
-      if (best == NONE || wrongs(state.clients.get(i), rows) <= wrongs(state.clients.get(best), rows)) best = i;
+    for (int wrong = 0; wrong < 2; wrong++) {
+      for (int i : fitting(rows)) if (wrongs(state.clients.get(i), rows) == wrong) return i;
     }
-    return best;
+    return NONE;
   }
 
   int ask() {

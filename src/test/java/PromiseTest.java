@@ -1027,8 +1027,20 @@ public final class PromiseTest {
     tell(x, 0, 1, 10, 1);
     due(x.likely(), 1);
     due(x.end(1), false);
+    // Only one that fits is likely: with two wrong rows each there is none.
     tell(x, 19, 1, 19, 1, 13, 1, 14, 1);
+    due(x.likely(), NONE);
+    tell(x, 19, 1, 3, 1, 14, 1);
     due(x.likely(), 4);
+    tell(x, 19, 1, 3, 1);
+    due(x.likely(), 4);
+    tell(x, 19, 1);
+    due(x.likely(), 0);
+    SerialGate blank = of("client;client;client");
+    tell(blank, 11, 1, 3, 1);
+    due(blank.likely(), NONE);
+    tell(blank, 11, 1, 3, 0);
+    due(blank.likely(), 0);
     tell(x, 20, 1);
     fails(ARGUMENT, x::likely);
     due(x.end(1), false);
