@@ -559,7 +559,7 @@ final class Model {
     Tx t = state.runningOf(client);
     int all = state.done();
     return new int[] {bits(c.reads), bits(c.writes), c.only ? 1 : 0, c.retries, c.done, t == null ? NONE : t.number,
-        state.stepOf(client), coloring().get(client), all == 0 ? 0 : (int) Math.floor(100.0 * c.done / all + 1e-9)}[what];
+        state.stepOf(client), what == 7 ? coloring().get(client) : 0, all == 0 ? 0 : (int) Math.floor(100.0 * c.done / all + 1e-9)}[what];
   }
 
   int ticks(int n) {

@@ -3,7 +3,7 @@ import java.util.concurrent.Callable;
 
 /** Each promise of the document by answers worked out by hand: ordinary ones, edges and wrong ones. */
 public final class PromiseTest {
-  private static final int NONE = SerialGate.NONE;
+  private static final int NONE = Gate.NONE;
   private static final Class<?> INDEX = IndexOutOfBoundsException.class;
   private static final Class<?> ARGUMENT = IllegalArgumentException.class;
   private static final Class<?> STATE = IllegalStateException.class;
@@ -36,13 +36,13 @@ public final class PromiseTest {
     due(got, want, line);
   }
 
-  private static void tell(SerialGate x, String text) {
+  private static void tell(Gate x, String text) {
     int[] bytes = new int[text.length()];
     for (int i = 0; i < bytes.length; i++) bytes[i] = text.charAt(i);
     tell(x, bytes);
   }
 
-  private static void tell(SerialGate x, int... bytes) {
+  private static void tell(Gate x, int... bytes) {
     x.end(0);
     for (int i = 0; i < bytes.length; i += 20) {
       int[] five = new int[5];
@@ -52,28 +52,28 @@ public final class PromiseTest {
     x.end(bytes.length);
   }
 
-  private static SerialGate of(String store) {
-    SerialGate x = new SerialGate();
+  private static Gate of(String store) {
+    Gate x = new Gate();
     tell(x, store);
     x.store();
     return x;
   }
 
-  private static SerialGate of(String store, String law) {
-    SerialGate x = of(store);
+  private static Gate of(String store, String law) {
+    Gate x = of(store);
     tell(x, law);
     x.law();
     return x;
   }
 
-  private static void wrongStore(SerialGate x, String text, int at) {
+  private static void wrongStore(Gate x, String text, int at) {
     tell(x, text);
     fails(ARGUMENT, x::store);
     due(x.fault(), at, "fault() of store '" + text + "'");
   }
 
   private static void wrongLaw(String text, int at) {
-    SerialGate x = new SerialGate();
+    Gate x = new Gate();
     tell(x, text);
     fails(ARGUMENT, x::law);
     due(x.fault(), at, "fault() of law '" + text + "'");
@@ -81,7 +81,7 @@ public final class PromiseTest {
   }
 
   private static void blame(String law, int want) {
-    SerialGate x = of("client reads 0 1 writes 2;client reads 2 only", law);
+    Gate x = of("client reads 0 1 writes 2;client reads 2 only", law);
     x.begin(1);
     x.begin(0);
     x.read(1, 0);
@@ -93,8 +93,8 @@ public final class PromiseTest {
   private static String repeated(String part, int n) { return part.repeat(n); }
 
   /** Two that read both keys and write one each: of these one must fail. */
-  private static SerialGate skewed() {
-    SerialGate x = of("client reads 0 1 writes 0;client reads 0 1 writes 1");
+  private static Gate skewed() {
+    Gate x = of("client reads 0 1 writes 0;client reads 0 1 writes 1");
     x.begin(0);
     x.begin(1);
     x.read(0, 0);
@@ -107,8 +107,8 @@ public final class PromiseTest {
   }
 
   /** Client 0 has read key 0 (slot 0), client 1 has written it and committed (3), client 2, that only reads, has begun (4). */
-  private static SerialGate batch(int keep, String law) {
-    SerialGate x = of("client reads 0 writes 1;client reads 0 writes 0;client reads 0 1 only", law);
+  private static Gate batch(int keep, String law) {
+    Gate x = of("client reads 0 writes 1;client reads 0 writes 0;client reads 0 1 only", law);
     x.keep(keep);
     x.begin(0);
     x.read(0, 0);
@@ -172,7 +172,7 @@ public final class PromiseTest {
   }
 
   private static void aNewObject() {
-    SerialGate x = new SerialGate();
+    Gate x = new Gate();
     int[] counts = {0, 0, 0, 0, NONE, 0, 3, 0, 0, 0, 0, 0, 0, 0};
     for (int i = 0; i < counts.length; i++) due(x.count(i), counts[i], "count(" + i + ")");
     due(x.fault(), NONE);
@@ -185,7 +185,7 @@ public final class PromiseTest {
   }
 
   private static void feed() {
-    SerialGate x = new SerialGate();
+    Gate x = new Gate();
     // "keep 5;purse 321;    ", of each number the highest byte first
     due(x.feed(0x6b656570, 0x20353b70, 0x75727365, 0x20333231, 0x20202020), 20);
     due(x.store(), 1);
@@ -202,13 +202,13 @@ public final class PromiseTest {
     wrongAt(x, 0);
   }
 
-  private static void wrongAt(SerialGate x, int at) {
+  private static void wrongAt(Gate x, int at) {
     fails(ARGUMENT, x::store);
     due(x.fault(), at);
   }
 
   private static void end() {
-    SerialGate x = new SerialGate();
+    Gate x = new Gate();
     due(x.end(0), true);
     due(x.end(-1), false);
     x.feed(0x6b656570, 0x20313131, 0, 0, 0);
@@ -223,7 +223,7 @@ public final class PromiseTest {
   }
 
   private static void store() {
-    SerialGate x = new SerialGate();
+    Gate x = new Gate();
     tell(x, "  client reads 1 2 1 writes 3  ;client only;version 4 7;keep 0;purse 999;client reads0writes 1 2;version 4 1  ");
     due(x.store(), 1);
     due(x.fault(), NONE);
@@ -284,7 +284,7 @@ public final class PromiseTest {
   }
 
   private static void versionsAreRaised() {
-    SerialGate x = of(repeated("version 0 999;", 9) + "version 0 999");
+    Gate x = of(repeated("version 0 999;", 9) + "version 0 999");
     due(x.key(0, 0), 9990);
     tell(x, "version 0 8");
     x.store();
@@ -305,7 +305,7 @@ public final class PromiseTest {
   }
 
   private static void twelveTexts() {
-    SerialGate x = new SerialGate();
+    Gate x = new Gate();
     for (int i = 1; i <= 12; i++) {
       tell(x, "version 2 1");
       due(x.store(), i);
@@ -322,7 +322,7 @@ public final class PromiseTest {
   }
 
   private static void aTextTidies() {
-    SerialGate x = of("client writes 0;client writes 1");
+    Gate x = of("client writes 0;client writes 1");
     x.begin(0);
     x.begin(1);
     x.write(1, 1);
@@ -337,7 +337,7 @@ public final class PromiseTest {
   }
 
   private static void law() {
-    SerialGate x = new SerialGate();
+    Gate x = new Gate();
     tell(x, "");
     due(x.law(), 0);
     due(x.count(4), 0);
@@ -383,7 +383,7 @@ public final class PromiseTest {
     blame("blame 5 if " + repeated("only or age<1 and (", 6) + "only or age<1 and 1+1<2" + repeated(")", 6), 10);
     blame("blame 5 if not(not(not(only or age<1 and only)))", 15);
     // Each tick of a lone client is a stamp more: behind 101 of them stamp is 1 again, age is not.
-    SerialGate old = of("client", "blame 5 if stamp>0 and stamp<2;blame 20 if age>99;blame 40 if stamp>1");
+    Gate old = of("client", "blame 5 if stamp>0 and stamp<2;blame 20 if age>99;blame 40 if stamp>1");
     old.ticks(60);
     old.ticks(41);
     due(old.slot(0, 10), 15);
@@ -392,7 +392,7 @@ public final class PromiseTest {
     for (int i = 0; i < 50; i++) old.commit(old.begin(1));
     due(old.count(5), 201);
     due(old.slot(0, 10), 35);
-    SerialGate y = of("client;client only", "pay 7 if only;pay 30 if not only;blame 1");
+    Gate y = of("client;client only", "pay 7 if only;pay 30 if not only;blame 1");
     y.begin(0);
     y.begin(1);
     due(y.slot(0, 11), 31);
@@ -440,7 +440,7 @@ public final class PromiseTest {
   }
 
   private static void fault() {
-    SerialGate x = new SerialGate();
+    Gate x = new Gate();
     due(x.fault(), NONE);
     wrongStore(x, "keep 9", 5);
     tell(x, "pay 1");
@@ -461,7 +461,7 @@ public final class PromiseTest {
   }
 
   private static void slot() {
-    SerialGate x = skewed();
+    Gate x = skewed();
     int[] zero = {1, 0, 1, 0, 3, 3, 1, 2, 2, 0, 10, 1, 0, 0, 0, 0};
     int[] one = {1, 1, 2, 0, 3, 3, 2, 1, 1, 0, 10, 1, 0, 0, 0, 0};
     for (int i = 0; i < 16; i++) {
@@ -473,7 +473,7 @@ public final class PromiseTest {
     fails(INDEX, () -> x.slot(8, 99));
     fails(ELEMENT, () -> x.slot(0, -1));
     fails(ELEMENT, () -> x.slot(7, 16));
-    SerialGate y = batch(3, "");
+    Gate y = batch(3, "");
     int[] finished = {2, 1, 2, 3, 0, 0, 1, 0, 1, 0, 10, 1, 0, 0, 0, 0};
     for (int i = 0; i < 16; i++) due(y.slot(1, i), finished[i], "slot(1, " + i + ") of the finished one");
     due(y.slot(0, 9), 3);
@@ -482,7 +482,7 @@ public final class PromiseTest {
     y.commit(0);
     due(y.slot(2, 15), 1);
     due(y.slot(2, 14), 0);
-    SerialGate z = batch(0, "");
+    Gate z = batch(0, "");
     due(z.slot(0, 12), 3);
     due(z.slot(0, 9), 3);
     due(z.slot(0, 7), 0);
@@ -492,7 +492,7 @@ public final class PromiseTest {
   }
 
   private static void seen() {
-    SerialGate x = of("client reads 0 writes 0;client;version 3 7");
+    Gate x = of("client reads 0 writes 0;client;version 3 7");
     due(x.seen(0, 3), NONE);
     x.begin(1);
     x.begin(0);
@@ -509,7 +509,7 @@ public final class PromiseTest {
   }
 
   private static void key() {
-    SerialGate x = batch(0, "");
+    Gate x = batch(0, "");
     due(x.key(0, 0), 1);
     due(x.key(0, 1), 0);
     due(x.key(0, 2), 3);
@@ -530,7 +530,7 @@ public final class PromiseTest {
   }
 
   private static void client() {
-    SerialGate x = of("client reads 3 5 writes 4 2;client reads 2 only;client");
+    Gate x = of("client reads 3 5 writes 4 2;client reads 2 only;client");
     due(x.client(0, 0), 40);
     due(x.client(0, 1), 20);
     due(x.client(0, 2), 0);
@@ -567,7 +567,7 @@ public final class PromiseTest {
 
   private static void ticks() {
     // Of two clients the draws from seed 1 choose 0 0 1 1 1 1 0 1 0 0.
-    SerialGate x = of("client reads 0;client writes 1");
+    Gate x = of("client reads 0;client writes 1");
     due(x.ticks(5), 1);
     due(x.slot(1, 0), 2);
     due(x.key(1, 0), 1);
@@ -585,17 +585,17 @@ public final class PromiseTest {
     fails(ARGUMENT, () -> x.ticks(61));
     fails(ARGUMENT, () -> x.ticks(-1));
     due(x.count(13), 2);
-    SerialGate none = new SerialGate();
+    Gate none = new Gate();
     due(none.ticks(60), 0);
     due(none.seed(1), 1);
     due(none.count(13), 1);
     // With one client each tick is its own: begin, read, write, commit, and again.
-    SerialGate one = of("client reads 7 writes 7");
+    Gate one = of("client reads 7 writes 7");
     due(one.ticks(60), 15);
     due(one.key(7, 0), 15);
     due(one.count(7), 15);
     // A step that waits does nothing: key 1 is client 0's, and from this seed the draw chooses client 1.
-    SerialGate waits = of("client writes 1;client writes 1");
+    Gate waits = of("client writes 1;client writes 1");
     waits.begin(0);
     waits.write(0, 1);
     waits.begin(1);
@@ -611,7 +611,7 @@ public final class PromiseTest {
   }
 
   private static void begin() {
-    SerialGate x = of("client;client;client;client;client;keep 6");
+    Gate x = of("client;client;client;client;client;keep 6");
     due(x.begin(3), 0);
     due(x.begin(0), 1);
     due(x.slot(0, 2), 1);
@@ -634,7 +634,7 @@ public final class PromiseTest {
   }
 
   private static void read() {
-    SerialGate x = of("client reads 0 writes 0;client reads 0 only;version 0 5");
+    Gate x = of("client reads 0 writes 0;client reads 0 only;version 0 5");
     x.begin(0);
     due(x.read(0, 0), 5);
     due(x.slot(0, 5), 1);
@@ -658,14 +658,14 @@ public final class PromiseTest {
     x.commit(1);
     fails(STATE, () -> x.read(1, 0));
     // A danger met by reading: the reader that only reads is behind a finished pivot.
-    SerialGate spoilt = batch(3, "");
+    Gate spoilt = batch(3, "");
     spoilt.write(0, 1);
     spoilt.commit(0);
     due(spoilt.read(2, 1), NONE);
     due(spoilt.log(1, 2), 3);
     due(spoilt.client(2, 3), 1);
     // The same, summarised: LAST OUT of key 1 is 3, below the begin of the reader, 4.
-    SerialGate summed = batch(0, "");
+    Gate summed = batch(0, "");
     summed.write(0, 1);
     summed.commit(0);
     due(summed.read(1, 1), NONE);
@@ -675,7 +675,7 @@ public final class PromiseTest {
   }
 
   private static void write() {
-    SerialGate x = of("client reads 0 writes 0;client reads 0 writes 0;client reads 0 only");
+    Gate x = of("client reads 0 writes 0;client reads 0 writes 0;client reads 0 only");
     x.begin(0);
     x.begin(1);
     x.begin(2);
@@ -693,20 +693,20 @@ public final class PromiseTest {
     due(x.client(1, 3), 1);
     due(x.slot(1, 0), 0);
     // The reader that only reads is ahead of a running pivot; both have the same blame, so the pivot falls.
-    SerialGate pivot = batch(3, "");
+    Gate pivot = batch(3, "");
     pivot.read(2, 1);
     due(pivot.write(0, 1), false);
     due(pivot.running(), 4);
-    SerialGate ahead = batch(3, "blame 5 if only");
+    Gate ahead = batch(3, "blame 5 if only");
     ahead.read(2, 1);
     due(ahead.write(0, 1), true);
     due(ahead.running(), 1);
     due(ahead.client(2, 3), 1);
-    SerialGate spared = batch(3, "spare 1 if pivot");
+    Gate spared = batch(3, "spare 1 if pivot");
     spared.read(2, 1);
     due(spared.write(0, 1), true);
     // LAST READ above BEGAN makes INMAX; with FIRST at most that none need be ahead.
-    SerialGate kept = of("client reads 0 writes 1;client reads 1 writes 0;keep 0");
+    Gate kept = of("client reads 0 writes 1;client reads 1 writes 0;keep 0");
     kept.begin(0);
     kept.read(0, 0);
     kept.begin(1);
@@ -721,7 +721,7 @@ public final class PromiseTest {
   }
 
   private static void commit() {
-    SerialGate x = skewed();
+    Gate x = skewed();
     due(x.commit(0), 3);
     due(x.running() + x.finished(), 0);
     due(x.client(1, 3), 1);
@@ -733,7 +733,7 @@ public final class PromiseTest {
     fails(INDEX, () -> x.commit(8));
     fails(INDEX, () -> x.commit(-1));
     // PAY as it was ahead of the commit: then the client was retried, and the stamp 2.
-    SerialGate paid = of("client writes 3;purse 999", "pay 20 if retried;pay 10 if stamp>2;pay 5 if stamp<3");
+    Gate paid = of("client writes 3;purse 999", "pay 20 if retried;pay 10 if stamp>2;pay 5 if stamp<3");
     paid.begin(0);
     paid.abort(0);
     paid.begin(0);
@@ -742,7 +742,7 @@ public final class PromiseTest {
     due(paid.count(7), 1025);
     due(paid.client(0, 3), 0);
     due(paid.key(3, 0), 1);
-    SerialGate spoilt = batch(3, "");
+    Gate spoilt = batch(3, "");
     spoilt.write(0, 1);
     due(spoilt.slot(2, 15), 0);
     due(spoilt.commit(0), 5);
@@ -751,7 +751,7 @@ public final class PromiseTest {
   }
 
   private static void abort() {
-    SerialGate x = batch(3, "");
+    Gate x = batch(3, "");
     due(x.abort(0), 0);
     due(x.client(0, 3), 1);
     due(x.finished(), 0);
@@ -763,7 +763,7 @@ public final class PromiseTest {
     fails(INDEX, () -> x.abort(8));
     fails(INDEX, () -> x.abort(-1));
     due(x.led(0, false), 0);
-    SerialGate many = of("client");
+    Gate many = of("client");
     for (int i = 0; i < 101; i++) {
       many.begin(0);
       many.abort(0);
@@ -772,7 +772,7 @@ public final class PromiseTest {
   }
 
   private static void keep() {
-    SerialGate x = of("client;client writes 1 2;client");
+    Gate x = of("client;client writes 1 2;client");
     x.begin(0);
     for (int i = 0; i < 3; i++) {
       x.begin(1);
@@ -796,7 +796,7 @@ public final class PromiseTest {
   }
 
   private static void dooms() {
-    SerialGate x = skewed();
+    Gate x = skewed();
     due(x.dooms(0, 2, 99), 2);
     due(x.dooms(1, 2, -5), 1);
     due(x.dooms(0, 0, 5), 0);
@@ -806,18 +806,17 @@ public final class PromiseTest {
     fails(INDEX, () -> x.dooms(8, 0, 0));
     fails(INDEX, () -> x.dooms(0, 0, 10));
     fails(INDEX, () -> x.dooms(0, 1, -1));
-    fails(INDEX, () -> x.dooms(0, 3, 10));
     fails(ARGUMENT, () -> x.dooms(5, 3, 0));
     fails(ARGUMENT, () -> x.dooms(0, -1, 0));
     fails(STATE, () -> x.dooms(5, 2, 0));
-    SerialGate spoilt = batch(3, "");
+    Gate spoilt = batch(3, "");
     due(spoilt.dooms(2, 1, 5), 0);
     spoilt.read(2, 1);
     due(spoilt.dooms(0, 1, 1), 1);
     due(spoilt.dooms(0, 1, 0), 1);
     due(spoilt.dooms(0, 2, 1), 0);
     due(spoilt.count(13), 8);
-    SerialGate summed = batch(0, "");
+    Gate summed = batch(0, "");
     summed.write(0, 1);
     summed.commit(0);
     due(summed.dooms(1, 0, 1), 2);
@@ -825,20 +824,20 @@ public final class PromiseTest {
   }
 
   private static void pivots() {
-    SerialGate x = skewed();
+    Gate x = skewed();
     due(x.pivots(), 3);
-    SerialGate y = batch(3, "");
+    Gate y = batch(3, "");
     due(y.pivots(), 0);
-    SerialGate z = batch(0, "blame 5 if only");
+    Gate z = batch(0, "blame 5 if only");
     due(z.slot(0, 12), 3);
     due(z.pivots(), 0);
     z.read(1, 1);
     z.begin(1);
     z.write(2, 0);
     due(z.pivots(), 0);
-    due(new SerialGate().pivots(), 0);
+    due(new Gate().pivots(), 0);
     // A pivot that has finished: of the three in a row the middle one commits first.
-    SerialGate row = of("client reads 1;client reads 2 writes 1;client writes 2");
+    Gate row = of("client reads 1;client reads 2 writes 1;client writes 2");
     row.begin(0);
     row.begin(1);
     row.begin(2);
@@ -852,11 +851,11 @@ public final class PromiseTest {
   }
 
   private static void cut() {
-    due(new SerialGate().cut(), 0);
-    SerialGate x = skewed();
+    due(new Gate().cut(), 0);
+    Gate x = skewed();
     due(x.cut(), 1);
     // 0 to 1 to 2: without the least of the three that helps, 0, 1 has no edge to it.
-    SerialGate row = of("client reads 1;client reads 2 writes 1;client writes 2;client reads 1");
+    Gate row = of("client reads 1;client reads 2 writes 1;client writes 2;client reads 1");
     row.begin(0);
     row.begin(1);
     row.begin(2);
@@ -871,7 +870,7 @@ public final class PromiseTest {
     due(row.cut(), 2);
     row.commit(2);
     due(row.cut(), 0);
-    SerialGate kept = of("client reads 1;client reads 2 writes 1;client writes 2", "");
+    Gate kept = of("client reads 1;client reads 2 writes 1;client writes 2", "");
     kept.begin(0);
     kept.begin(1);
     kept.begin(2);
@@ -884,8 +883,8 @@ public final class PromiseTest {
     due(kept.cut(), 2);
   }
 
-  private static SerialGate twoCommits() {
-    SerialGate x = of("client reads 0 writes 1;client reads 1 writes 2;version 1 4");
+  private static Gate twoCommits() {
+    Gate x = of("client reads 0 writes 1;client reads 1 writes 2;version 1 4");
     x.begin(0);
     x.begin(1);
     x.read(0, 0);
@@ -898,14 +897,14 @@ public final class PromiseTest {
   }
 
   private static void history() {
-    SerialGate x = twoCommits();
+    Gate x = twoCommits();
     int[][] rows = {{0, 3, 1, 2}, {1, 4, 2, 4}};
     for (int row = 0; row < 2; row++) for (int i = 0; i < 4; i++) due(x.history(row, i), rows[row][i]);
     due(x.history(2, 0), NONE);
     due(x.history(-1, 3), NONE);
     fails(ELEMENT, () -> x.history(0, 4));
     fails(ELEMENT, () -> x.history(-1, -1));
-    SerialGate many = of("client writes 0");
+    Gate many = of("client writes 0");
     many.ticks(42);
     due(many.count(9), 12);
     due(many.history(0, 1), 6);
@@ -915,7 +914,7 @@ public final class PromiseTest {
   }
 
   private static void version() {
-    SerialGate x = twoCommits();
+    Gate x = twoCommits();
     due(x.version(0, 0, false), 0);
     due(x.version(0, 1, false), NONE);
     due(x.version(0, 1, true), 5);
@@ -929,14 +928,14 @@ public final class PromiseTest {
   }
 
   private static void serial() {
-    due(new SerialGate().serial(0), NONE);
+    due(new Gate().serial(0), NONE);
     // Row 1 saw key 1 as it was ahead of row 0's write.
-    SerialGate x = twoCommits();
+    Gate x = twoCommits();
     due(x.serial(0), 1);
     due(x.serial(1), 0);
     due(x.serial(2), NONE);
     due(x.serial(-1), NONE);
-    SerialGate y = of("client writes 0;client reads 0");
+    Gate y = of("client writes 0;client reads 0");
     y.begin(0);
     y.write(0, 0);
     y.commit(0);
@@ -952,7 +951,7 @@ public final class PromiseTest {
   private static final String FIVE = "client reads 0 1 writes 1;client reads 0 1 writes 0;client reads 0 1 2 only;client writes 5;client reads 3 writes 4";
 
   private static void clash() {
-    SerialGate x = of(FIVE);
+    Gate x = of(FIVE);
     due(x.clash(0, 1), true);
     due(x.clash(1, 0), true);
     due(x.clash(2, 0), true);
@@ -960,38 +959,38 @@ public final class PromiseTest {
     fails(INDEX, () -> x.clash(5, 5));
     fails(INDEX, () -> x.clash(0, -1));
     fails(ARGUMENT, () -> x.clash(4, 4));
-    SerialGate y = of("client reads 1;client reads 1 only;client writes 1;client writes 1");
+    Gate y = of("client reads 1;client reads 1 only;client writes 1;client writes 1");
     due(y.clash(0, 1), false);
     due(y.clash(0, 2), true);
     due(y.clash(2, 3), true);
   }
 
   private static void apart() {
-    due(new SerialGate().apart(), 0);
+    due(new Gate().apart(), 0);
     due(of(FIVE).apart(), 25);
     due(of("client writes 1;client writes 1").apart(), 1);
     due(of("client reads 1;client writes 1;client reads 1").apart(), 5);
   }
 
   private static void rounds() {
-    due(new SerialGate().rounds(), 0);
+    due(new Gate().rounds(), 0);
     due(of(FIVE).rounds(), 3);
     due(of("client").rounds(), 1);
     due(of("client writes 1;client writes 1;client writes 1;client writes 1;client writes 1").rounds(), 5);
     // A path 0 - 2 - 1 - 3: 0 and 1 can share a round, then two are enough.
-    SerialGate x = of("client writes 0;client writes 1 2;client reads 0 1;client reads 2");
+    Gate x = of("client writes 0;client writes 1 2;client reads 0 1;client reads 2");
     due(x.rounds(), 2);
     int[] rounds = {0, 0, 1, 1};
     for (int i = 0; i < 4; i++) due(x.client(i, 7), rounds[i]);
     // A path 0 - 3 - 2 - 1: the first fit, 0 and 1 together, would need a third round.
-    SerialGate y = of("client writes 0;client writes 1;client reads 1 writes 2;client reads 0 2");
+    Gate y = of("client writes 0;client writes 1;client reads 1 writes 2;client reads 0 2");
     due(y.rounds(), 2);
     int[] other = {0, 1, 0, 1};
     for (int i = 0; i < 4; i++) due(y.client(i, 7), other[i]);
   }
 
   private static void cover() {
-    due(new SerialGate().cover(), 0);
+    due(new Gate().cover(), 0);
     due(of("client;client only").cover(), 0);
     due(of(FIVE).cover(), 41);
     due(of("client reads 9;client writes 9 3;client reads 3 8 writes 9").cover(), 512);
@@ -999,7 +998,7 @@ public final class PromiseTest {
   }
 
   private static void who() {
-    SerialGate x = of(FIVE);
+    Gate x = of(FIVE);
     tell(x, "");
     due(x.who(), 31);
     tell(x, 11, 1, 11, 1);
@@ -1017,11 +1016,11 @@ public final class PromiseTest {
     }
     tell(x, new int[40]);
     due(x.who(), 24);
-    due(new SerialGate().who(), 0);
+    due(new Gate().who(), 0);
   }
 
   private static void likely() {
-    SerialGate x = of(FIVE);
+    Gate x = of(FIVE);
     tell(x, "");
     due(x.likely(), 0);
     tell(x, 0, 1, 10, 1);
@@ -1036,7 +1035,7 @@ public final class PromiseTest {
     due(x.likely(), 4);
     tell(x, 19, 1);
     due(x.likely(), 0);
-    SerialGate blank = of("client;client;client");
+    Gate blank = of("client;client;client");
     tell(blank, 11, 1, 3, 1);
     due(blank.likely(), NONE);
     tell(blank, 11, 1, 3, 0);
@@ -1046,11 +1045,11 @@ public final class PromiseTest {
     due(x.end(1), false);
     tell(x, 5);
     fails(ARGUMENT, x::likely);
-    due(new SerialGate().likely(), NONE);
+    due(new Gate().likely(), NONE);
   }
 
   private static void ask() {
-    SerialGate x = of(FIVE);
+    Gate x = of(FIVE);
     tell(x, "");
     due(x.ask(), 0);
     tell(x, 0, 1, 10, 1);
@@ -1061,31 +1060,31 @@ public final class PromiseTest {
     tell(x, 0, 9);
     fails(ARGUMENT, x::ask);
     due(x.end(1), false);
-    due(new SerialGate().ask(), NONE);
+    due(new Gate().ask(), NONE);
     due(of("client").ask(), NONE);
     due(of("client;client").ask(), 0);
     due(of("client writes 9;client;client writes 9").ask(), 19);
   }
 
   private static void pairs() {
-    SerialGate x = of(FIVE);
+    Gate x = of(FIVE);
     int[] with = {NONE, 3, 4, 1, 2};
     due(x.pairs(NONE), 8);
     for (int i = 0; i < 5; i++) due(x.pairs(i), with[i]);
     fails(INDEX, () -> x.pairs(5));
     fails(INDEX, () -> x.pairs(-2));
-    due(new SerialGate().pairs(NONE), 0);
-    SerialGate bare = of("client;client");
+    due(new Gate().pairs(NONE), 0);
+    Gate bare = of("client;client");
     due(bare.pairs(NONE), 0);
     due(bare.pairs(0), NONE);
-    SerialGate all = of("client reads 1;client reads 1 2;client reads 1 2 3;client reads 4");
+    Gate all = of("client reads 1;client reads 1 2;client reads 1 2 3;client reads 4");
     due(all.pairs(NONE), 7);
     due(all.pairs(0), 1);
     due(all.pairs(3), 2);
   }
 
   private static void rests() {
-    SerialGate x = of(FIVE);
+    Gate x = of(FIVE);
     due(x.rests(0, 1), 6);
     due(x.rests(0, 3), 1);
     fails(INDEX, () -> x.rests(5, 5));
@@ -1109,14 +1108,14 @@ public final class PromiseTest {
   }
 
   private static void odds() {
-    SerialGate x = of("client;client;client");
+    Gate x = of("client;client;client");
     int[][] rows = {{0, 0, 10000}, {0, 1, 0}, {1, 0, 10000}, {1, 1, 3333}, {2, 1, 5555}, {2, 2, 1111}, {3, 1, 7037}, {5, 5, 41}, {5, 2, 5390}};
     for (int[] row : rows) due(x.odds(row[0], row[1]), row[2]);
     due(of("client").odds(4, 4), 10000);
     due(of("client").odds(4, 5), 0);
     due(of(FIVE).odds(2, 1), 3600);
-    due(new SerialGate().odds(3, 0), 10000);
-    due(new SerialGate().odds(3, 1), 0);
+    due(new Gate().odds(3, 0), 10000);
+    due(new Gate().odds(3, 1), 0);
     fails(ARGUMENT, () -> x.odds(6, 0));
     fails(ARGUMENT, () -> x.odds(0, 6));
     fails(ARGUMENT, () -> x.odds(-1, 0));
@@ -1124,7 +1123,7 @@ public final class PromiseTest {
   }
 
   private static void most() {
-    SerialGate x = of("client;client reads 1 2 writes 2 3;client reads 7 8 9");
+    Gate x = of("client;client reads 1 2 writes 2 3;client reads 7 8 9");
     due(x.most(0), 0);
     due(x.most(1), 0);
     due(x.most(2), 1);
@@ -1134,13 +1133,13 @@ public final class PromiseTest {
     x.abort(0);
     due(x.most(0), 2);
     due(x.most(1), 1);
-    for (int what = 0; what < 3; what++) due(new SerialGate().most(what), NONE);
+    for (int what = 0; what < 3; what++) due(new Gate().most(what), NONE);
     fails(ELEMENT, () -> x.most(3));
     fails(ELEMENT, () -> x.most(-1));
   }
 
   private static void running() {
-    SerialGate x = of("client;client;client");
+    Gate x = of("client;client;client");
     due(x.running(), 0);
     x.begin(1);
     x.begin(2);
@@ -1153,7 +1152,7 @@ public final class PromiseTest {
   }
 
   private static void finished() {
-    SerialGate x = of("client;client;client");
+    Gate x = of("client;client;client");
     due(x.finished(), 0);
     x.begin(1);
     x.begin(2);
@@ -1171,20 +1170,20 @@ public final class PromiseTest {
   }
 
   private static void hot() {
-    due(new SerialGate().hot(), 0);
+    due(new Gate().hot(), 0);
     due(of("client;client").hot(), 0);
     due(of("client reads 3 writes 3 4;client writes 4;client reads 9").hot(), 4);
     due(of("client reads 8 2;client writes 2 8").hot(), 2);
   }
 
   private static void twins() {
-    due(new SerialGate().twins(), 0);
+    due(new Gate().twins(), 0);
     due(of("client;client;client only").twins(), 3);
     due(of("client reads 1 2;client reads 2 1 1;client reads 1 2 writes 1;client writes 1").twins(), 1);
   }
 
   private static void trial() {
-    SerialGate x = of("client reads 0;client writes 1", "pay 4 if client>0");
+    Gate x = of("client reads 0;client writes 1", "pay 4 if client>0");
     due(x.trial(0, false), 0);
     due(x.trial(5, false), 1);
     due(x.trial(5, true), 5);
@@ -1198,11 +1197,11 @@ public final class PromiseTest {
     due(x.trial(60, false) >= 2, true);
     fails(ARGUMENT, () -> x.trial(-1, true));
     fails(ARGUMENT, () -> x.trial(61, false));
-    due(new SerialGate().trial(60, true), 0);
+    due(new Gate().trial(60, true), 0);
   }
 
   private static void span() {
-    SerialGate x = of("client reads 0;client writes 1");
+    Gate x = of("client reads 0;client writes 1");
     // From seeds 1 to 6 the first three of two clients' draws: all of one client commit it once.
     int least = 9;
     int greatest = 0;
@@ -1226,7 +1225,7 @@ public final class PromiseTest {
     due(x.span(3, true), greatest);
     due(x.seed(1), 77);
     due(x.count(5), 0);
-    SerialGate one = of("client");
+    Gate one = of("client");
     due(one.span(60, true), 30);
     due(one.span(59, false), 29);
     one.ticks(2);
@@ -1236,7 +1235,7 @@ public final class PromiseTest {
   }
 
   private static void led() {
-    SerialGate x = skewed();
+    Gate x = skewed();
     due(x.led(1, false), 0);
     due(x.led(1, true), NONE);
     x.commit(0);
@@ -1258,14 +1257,14 @@ public final class PromiseTest {
   }
 
   private static void log() {
-    SerialGate x = batch(0, "");
+    Gate x = batch(0, "");
     int[][] rows = {{3, 1, 5, 1}, {3, 1, 0, 1}};
     for (int ago = 0; ago < 2; ago++) for (int i = 0; i < 4; i++) due(x.log(ago, i), rows[ago][i]);
     due(x.log(2, 0), NONE);
     due(x.log(-1, 0), NONE);
     fails(ELEMENT, () -> x.log(0, 4));
     fails(ELEMENT, () -> x.log(99, -1));
-    SerialGate many = of("client");
+    Gate many = of("client");
     many.ticks(60);
     many.ticks(2);
     due(many.count(12), 60);
@@ -1276,7 +1275,7 @@ public final class PromiseTest {
   }
 
   private static void seed() {
-    SerialGate x = of("client reads 0;client writes 1");
+    Gate x = of("client reads 0;client writes 1");
     due(x.seed(Integer.MIN_VALUE), 1);
     due(x.seed(1), Integer.MIN_VALUE);
     x.ticks(1);
@@ -1288,7 +1287,7 @@ public final class PromiseTest {
   }
 
   private static void undo() {
-    SerialGate x = skewed();
+    Gate x = skewed();
     x.image();
     x.commit(0);
     x.seed(99);
@@ -1338,7 +1337,7 @@ public final class PromiseTest {
   }
 
   private static void image() {
-    SerialGate x = skewed();
+    Gate x = skewed();
     x.image();
     due(x.count(13), 8);
     x.commit(0);
@@ -1351,7 +1350,7 @@ public final class PromiseTest {
   }
 
   private static void back() {
-    SerialGate x = new SerialGate();
+    Gate x = new Gate();
     due(x.back(), false);
     x.image();
     tell(x, "client reads 1;version 2 3;keep 1;purse 6");
@@ -1364,7 +1363,7 @@ public final class PromiseTest {
     for (int i = 0; i < counts.length; i++) due(x.count(i), counts[i], "count(" + i + ")");
     due(x.seed(1), 1);
     due(x.key(2, 0), 0);
-    SerialGate y = skewed();
+    Gate y = skewed();
     tell(y, "blame 3;pay 2");
     y.law();
     y.image();
@@ -1382,7 +1381,7 @@ public final class PromiseTest {
   }
 
   private static void count() {
-    SerialGate x = batch(3, "blame 1;pay 1 if only");
+    Gate x = batch(3, "blame 1;pay 1 if only");
     int[] counts = {3, 2, 1, 1, 2, 4, 3, 1, 1, 1, 1, 0, 1, 7};
     for (int i = 0; i < counts.length; i++) due(x.count(i), counts[i], "count(" + i + ")");
     due(x.count(14), NONE);
