@@ -63,6 +63,32 @@ final class DangerEdges extends Bench {
     due(p.slot(0, 3), 5);
     due(p.write(1, 0), false);
     due(p.led(1, false), 1);
+    // The one RUNNING falls, whichever the FINISHED one's BLAME is: A is FINISHED here, then P.
+    Gate a = of("client;client;client;keep 6", "blame 40 if slot<1");
+    a.begin(0);
+    a.begin(1);
+    a.begin(2);
+    a.read(1, 1);
+    a.read(0, 0);
+    a.write(2, 1);
+    a.commit(2);
+    a.commit(0);
+    due(a.slot(0, 10), 50);
+    due(a.write(1, 0), false);
+    due(a.led(1, false), 1);
+    due(a.led(0, false), 0);
+    Gate f = of("client;client;client;keep 6", "blame 40 if slot>0");
+    f.begin(0);
+    f.begin(1);
+    f.begin(2);
+    f.read(1, 1);
+    f.write(2, 1);
+    f.commit(2);
+    f.write(1, 0);
+    f.commit(1);
+    due(f.read(0, 0), NONE);
+    due(f.led(0, false), 1);
+    due(f.led(1, false), 0);
     // Both FINISHED: there is none, though the edges stand.
     Gate none = row3();
     none.begin(3);
@@ -164,6 +190,21 @@ final class DangerEdges extends Bench {
       due(x.slot(0, 0), reads == 0 ? 1 : 0);
       if (reads == 0) due(x.slot(0, 13), 4);
     }
+    // Who only reads, begun ahead of FIRST, makes no danger as an A; once it is summarised its end is INMAX, as each other's.
+    for (int keep = 0; keep <= 6; keep += 6) {
+      Gate x = fleet(keep);
+      x.begin(0);
+      x.begin(4);
+      x.begin(1);
+      x.read(0, 0);
+      x.read(1, 1);
+      x.write(2, 0);
+      due(x.commit(2), 4);
+      due(x.commit(1), 5);
+      due(x.slot(0, 9), 4);
+      due(x.write(0, 1), keep == 6);
+      due(x.slot(0, 13), keep == 6 ? 0 : NONE);
+    }
     // Without INMAX, FIRST alone is none; without FIRST, INMAX alone is none.
     Gate first = fleet(0);
     first.begin(0);
@@ -194,6 +235,15 @@ final class DangerEdges extends Bench {
       due(x.led(falls[i], false), 1, line() + ", led by '" + laws[i] + "'");
       due(x.led(1 - falls[i], false), 0, line() + ", led by '" + laws[i] + "'");
       due(x.client(1 - falls[i], 5), 1 - falls[i]);
+    }
+    // BLAME as it is by then: the stamp is 4 by the commit, and slot 0 had no retry ahead of it.
+    String[] by = {"blame 1 if slot<1 and stamp>3", "blame 1 if slot<1 and stamp<4", "blame 1 if slot<1 and age>2", "blame 1 if slot<1 and retried"};
+    int[] by4 = {0, 1, 0, 1};
+    for (int i = 0; i < by.length; i++) {
+      Gate x = row3();
+      law(x, by[i]);
+      x.commit(2);
+      due(x.led(by4[i], false), 1, line() + ", led by '" + by[i] + "'");
     }
     // BLAME 0 of both is alike.
     Gate zero = row3();

@@ -35,6 +35,13 @@ final class GuessEdges extends Bench {
     due(who(x, 0, 1, 0, 0, 0, 1), 3);
     due(who(x, 19, 1, 19, 1), 5);
     due(who(x, 5, 1, 15, 1), 0);
+    // The rows at the edge between READS and WRITES, and the first and the last one.
+    due(who(x, 9, 1, 9, 1), 1);
+    due(who(x, 10, 1, 10, 1), 1);
+    due(who(x, 9, 0, 9, 0), 14);
+    due(who(x, 10, 0, 10, 0), 14);
+    due(who(x, 0, 0, 0, 0), 12);
+    due(who(x, 19, 0, 19, 0), 10);
     due(who(new Gate(), 0, 1), 0);
   }
 

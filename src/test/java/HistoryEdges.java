@@ -26,6 +26,11 @@ final class HistoryEdges extends Bench {
     }
     due(x.history(11, 2), 2);
     due(x.history(11, 3), 1);
+    for (int what = 0; what < 4; what++) due(x.history(12, what), NONE);
+    due(x.version(12, 0, true), NONE);
+    due(x.version(12, 1, false), NONE);
+    due(x.version(-1, 0, true), NONE);
+    due(x.version(-1, 1, false), NONE);
     for (int row = 0; row < 12; row++) due(x.serial(row), row);
     // What is aborted is no commit.
     x.abort(x.begin(0));
@@ -223,5 +228,25 @@ final class HistoryEdges extends Bench {
       due(x.serial(0), 0);
     }
     for (int k : new int[] {-1, 12, 13, Integer.MAX_VALUE, Integer.MIN_VALUE}) due(x.serial(k), NONE);
+  }
+
+  @Says("ahead of which none of those left MUST BE")
+  static void askedAgain() {
+    // Row 1 must be ahead of row 0; undone, and told otherwise, it need not be.
+    Gate x = of5("");
+    x.begin(0);
+    x.begin(1);
+    x.read(0, 0);
+    x.write(1, 0);
+    x.commit(1);
+    x.commit(0);
+    serialIs(x, 1, 0);
+    x.undo();
+    serialIs(x, 0);
+    x.abort(0);
+    x.commit(x.begin(2));
+    serialIs(x, 0, 1);
+    x.commit(x.begin(3));
+    serialIs(x, 0, 1, 2);
   }
 }

@@ -171,6 +171,12 @@ final class LawEdges extends Bench {
         holds(x, slot, "not " + fact[0] + "<" + fact[1 + slot] + " and not " + fact[0] + ">" + fact[1 + slot], true);
       }
     }
+    // A slot's number and its client's are two.
+    Gate z = of("client;client;client");
+    z.begin(2);
+    z.begin(0);
+    holds(z, 0, "slot<1 and client>1 and client<3", true);
+    holds(z, 1, "slot>0 and slot<2 and client<1", true);
     // Of a FINISHED one too; its age goes on.
     Gate y = of("client;client");
     y.begin(0);
@@ -404,5 +410,33 @@ final class LawEdges extends Bench {
     wrongLaw("pay 1 if only andonly", 14);
     wrongLaw("pay 1 if a ge<1", 9);
     wrongLaw("pay 1 if age<1 2", 15);
+  }
+
+  @Says("only | pivot | retried |")
+  static void eachOfThreeWords() {
+    // Slot 0: client 0, a pivot. Slot 1: client 1, that only reads, retried. Slot 2: client 2, none of these.
+    Gate x = of("client;client only;client;client");
+    x.abort(x.begin(1));
+    x.begin(0);
+    x.begin(1);
+    x.begin(2);
+    x.begin(3);
+    x.read(1, 0);
+    x.write(0, 0);
+    x.read(0, 1);
+    x.write(3, 1);
+    String[] words = {"pivot", "only", "retried"};
+    boolean[][] due = {{true, false, false}, {false, true, false}, {false, true, false}};
+    for (int i = 0; i < words.length; i++) {
+      for (int slot = 0; slot < 3; slot++) {
+        holds(x, slot, words[i], due[i][slot]);
+        holds(x, slot, "not " + words[i], !due[i][slot]);
+        holds(x, slot, words[i] + " and 0<1", due[i][slot]);
+        holds(x, slot, "0<1 and not not " + words[i] + " or 1<0", due[i][slot]);
+      }
+    }
+    holds(x, 1, "only and retried and not pivot", true);
+    holds(x, 0, "pivot and not only and not retried", true);
+    holds(x, 2, "only or pivot or retried", false);
   }
 }

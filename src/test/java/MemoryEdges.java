@@ -225,6 +225,40 @@ final class MemoryEdges extends Bench {
       due(x.history(11, 1), 62);
       due(i == 0 ? x.undo() : x.back(), true);
     }
+    // With its client and its keys, and what it saw and wrote of each.
+    Gate y = of("client;client;client;version 0 3;version 2 5");
+    int first = y.begin(1);
+    y.read(first, 0);
+    y.write(first, 2);
+    y.commit(first);
+    for (int i = 0; i < 11; i++) y.commit(y.begin(0));
+    int last = y.begin(2);
+    y.read(last, 2);
+    y.write(last, 0);
+    y.image();
+    for (int i = 0; i < 3; i++) {
+      int[] row = {1, 2, 1, 4};
+      for (int what = 0; what < 4; what++) due(y.history(0, what), row[what]);
+      due(y.version(0, 0, false), 3);
+      due(y.version(0, 2, true), 6);
+      due(y.version(0, 2, false), NONE);
+      due(y.log(23, 1), 1);
+      if (i == 2) break;
+      y.commit(last);
+      due(y.history(0, 0), 0);
+      due(y.history(11, 0), 2);
+      due(y.history(11, 2), 4);
+      due(y.history(11, 3), 1);
+      due(y.version(11, 2, false), 6);
+      due(y.version(11, 0, true), 4);
+      due(i == 0 ? y.undo() : y.back(), true);
+    }
+    y.dooms(last, 2, 0);
+    y.trial(60, true);
+    due(y.history(0, 0), 1);
+    due(y.history(0, 2), 1);
+    due(y.history(0, 3), 4);
+    due(y.version(0, 2, true), 6);
     // Nor does a trial, a span or what would be doomed drop it.
     int slot = x.begin(0);
     x.trial(60, true);

@@ -604,4 +604,33 @@ final class ReadWriteEdges extends Bench {
     logIs(x, row(3, 1, 0, 1));
     due(x.count(12), 1);
   }
+
+  @Says("if it is not ONLY and its FIRST is above 0: each RUNNING one that is ONLY")
+  static void besideOneThatOnlyReads() {
+    // The one that commits is not ONLY, the slot right behind it is: that is SPOILT.
+    Gate x = fleet(0);
+    x.begin(0);
+    x.read(0, 0);
+    x.begin(1);
+    x.write(1, 0);
+    x.commit(1);
+    due(x.begin(4), 1);
+    x.begin(2);
+    x.commit(0);
+    due(x.slot(1, 15), 1);
+    due(x.slot(2, 15), 0);
+    // The one that commits is ONLY, the slot right behind it is not: nobody is SPOILT.
+    Gate y = of("client;client;client only;client only;keep 6");
+    y.begin(0);
+    y.begin(1);
+    y.begin(2);
+    y.read(2, 0);
+    y.write(1, 0);
+    y.commit(1);
+    due(y.begin(1), 3);
+    due(y.begin(3), 4);
+    due(y.slot(2, 9), 4);
+    y.commit(2);
+    due(y.slot(4, 15), 0);
+  }
 }

@@ -88,6 +88,32 @@ final class SlotEdges extends Bench {
     due(y.begin(2), 2);
     slotIs(y, 2, 1, 2, 8, 0, 0, 0, 0, 0, 0, 0, 10, 1, 0, 0, 0, 0);
     due(y.count(8), 0);
+    // Nor edges to it and from it, whether it was aborted, summarised or forgotten.
+    for (int how = 0; how < 3; how++) {
+      Gate z = of(FOUR_AND_ONLY + ";keep 6");
+      z.begin(0);
+      z.begin(1);
+      z.begin(2);
+      z.read(0, 0);
+      z.write(1, 0);
+      z.read(1, 1);
+      z.write(2, 1);
+      due(z.slot(1, 7), 4);
+      due(z.slot(1, 8), 1);
+      if (how == 0) z.abort(1);
+      else z.commit(1);
+      if (how == 1) z.keep(0);
+      if (how == 2) {
+        z.abort(0);
+        z.abort(2);
+      }
+      due(z.begin(3), how == 2 ? 0 : 1);
+      if (how == 2) due(z.begin(1), 1);
+      due(z.slot(1, 7), 0);
+      due(z.slot(1, 8), 0);
+      due(z.count(8), 0);
+      due(z.pivots(), 0);
+    }
   }
 
   @Says("SEEN: VERSION of each KEY as it was when it began")
