@@ -454,4 +454,40 @@ final class DangerEdges extends Bench {
     x.write(3, 2);
     due(x.cut(), 128);
   }
+
+  @Says("without which no RUNNING one has both an EDGE to it and one from it")
+  static void cutOfTheFirstSlot() {
+    // Slot 0 is between slots 1 and 2 on the one side and 3 and 4 on the other one.
+    Gate x = of("client;client;client;client;client");
+    for (int i = 0; i < 5; i++) x.begin(i);
+    x.read(1, 0);
+    x.read(2, 0);
+    x.write(0, 0);
+    x.read(0, 3);
+    x.read(0, 4);
+    x.write(3, 3);
+    x.write(4, 4);
+    due(x.slot(0, 8), 6);
+    due(x.slot(0, 7), 24);
+    due(x.cut(), 1);
+    due(x.pivots(), 1);
+    // Nor is a danger of the first slot, or of the last one, left out.
+    due(x.dooms(3, 2, 0), 1);
+    x.commit(3);
+    due(x.running(), 22);
+    Gate y = of("client;client;client;client;client;keep 6");
+    for (int i = 0; i < 5; i++) y.begin(i);
+    for (int i = 1; i < 4; i++) y.commit(y.client(4, 5) == NONE ? y.begin(4) : y.client(4, 5));
+    due(y.begin(4), 7);
+    y.read(0, 0);
+    y.write(7, 0);
+    y.read(7, 1);
+    y.write(1, 1);
+    due(y.cut(), 1);
+    due(y.pivots(), 128);
+    due(y.dooms(1, 2, 0), 128);
+    y.commit(1);
+    due(y.client(4, 5), NONE);
+    due(y.running(), 13);
+  }
 }

@@ -110,6 +110,17 @@ final class LawEdges extends Bench {
     // Each LINE begins at none.
     rightLaw("pay 1 if ((((((only))))));pay 1 if ((((((only))))))", 2);
     rightLaw("pay 1 if not not not not not not only;pay 1 if not only", 2);
+    // Nor does what a wrong text left open count for the next one.
+    for (String open : new String[] {"pay 1 if ((((((", "pay 1 if not not not not not not", "pay 1 if (only or (only and not", "pay 1 if not (((only) and"}) {
+      wrongLaw(x, open, open.length());
+      holds(x, 0, "((((((slot<1))))))", true);
+      wrongLaw(x, open, open.length());
+      holds(x, 0, "not not not not not not slot>1", false);
+      wrongLaw(x, open, open.length());
+      holds(x, 0, "slot<1 and not slot>1 or only", true);
+      wrongLaw(x, open, open.length());
+      wrongLaw(x, "pay 1 if only)", 13);
+    }
     wrongLaw("pay 1 if ((((((only)))))", 24);
     wrongLaw("pay 1 if ((((((only)))))))", 25);
   }

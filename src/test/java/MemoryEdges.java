@@ -454,10 +454,25 @@ final class MemoryEdges extends Bench {
     x.abort(3);
     x.commit(1);
     // Slots 0 and 2 have edges to slot 1; client 3 has two retries; the purse has 8 more.
+    due(x.client(3, 3), 2);
     int[] counts = {4, 2, 1, 2, 2, 6, 5, 48, 2, 1, 1, 2, 3, 12};
     for (int what = 0; what < 14; what++) due(x.count(what), counts[what], line() + ", count(" + what + ")");
     x.undo();
     int[] undone = {4, 3, 0, 2, 2, 5, 5, 40, 2, 0, 0, 2, 2, 11};
     for (int what = 0; what < 14; what++) due(x.count(what), undone[what], line() + ", count(" + what + ") undone");
+    // DONE and RETRIES of all are of each client, the first and the last one too.
+    Gate all = of(lines("client", 5));
+    for (int i = 0; i < 5; i++) {
+      for (int j = 0; j <= i; j++) all.commit(all.begin(i));
+      due(all.count(10), (i + 1) * (i + 2) / 2);
+    }
+    int retries = 0;
+    for (int i = 0; i < 5; i++) {
+      for (int j = i; j < 5; j++) {
+        all.abort(all.begin(i));
+        retries++;
+      }
+      due(all.count(11), retries);
+    }
   }
 }

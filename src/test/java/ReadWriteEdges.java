@@ -633,4 +633,45 @@ final class ReadWriteEdges extends Bench {
     y.commit(2);
     due(y.slot(4, 15), 0);
   }
+
+  @Says("each RUNNING one that is ONLY, whose BEGAN is above that FIRST and above its BEGAN, is SPOILT")
+  static void spoiltInTheFirstAndTheLastSlot() {
+    // Slot 1 reads what slot 2 writes; slot 0 is used again by one that only reads, begun behind that.
+    Gate x = fleet(6);
+    x.begin(3);
+    x.begin(0);
+    x.begin(1);
+    x.read(1, 0);
+    x.write(2, 0);
+    x.commit(2);
+    x.abort(0);
+    due(x.begin(4), 0);
+    x.commit(1);
+    due(x.slot(0, 15), 1);
+    due(x.slot(0, 14), 0);
+    // The same with all slots used, the reader in the last one.
+    Gate y = of("client;client;client only;keep 6");
+    y.begin(0);
+    y.read(0, 0);
+    y.begin(1);
+    y.write(1, 0);
+    y.commit(1);
+    for (int i = 2; i <= 6; i++) y.commit(y.begin(1));
+    due(y.begin(2), 7);
+    y.commit(0);
+    due(y.slot(7, 15), 1);
+    // Two of them at once.
+    Gate z = of("client;client;client only;client only;keep 6");
+    z.begin(0);
+    z.read(0, 0);
+    z.begin(2);
+    z.begin(1);
+    z.write(2, 0);
+    z.commit(2);
+    z.abort(1);
+    due(z.begin(3), 1);
+    due(z.begin(2), 3);
+    z.commit(0);
+    due(z.slot(1, 15) + z.slot(3, 15), 2);
+  }
 }

@@ -403,6 +403,24 @@ final class SlotEdges extends Bench {
     y.commit(0);
     due(y.slot(0, 0), 2);
     due(y.slot(0, 9), 4);
+    // By an edge to the first slot alone, and to the last one alone.
+    Gate z = of(FOUR_AND_ONLY + ";keep 6");
+    z.begin(0);
+    z.begin(1);
+    z.read(1, 0);
+    z.write(0, 0);
+    z.commit(0);
+    due(z.slot(1, 7), 1);
+    due(z.slot(1, 9), 3);
+    Gate last = full();
+    last.read(0, 0);
+    last.write(7, 0);
+    last.keep(6);
+    due(last.slot(0, 7), 128);
+    due(last.slot(0, 9), 0);
+    last.commit(7);
+    due(last.slot(7, 0), 2);
+    due(last.slot(0, 9), 15);
   }
 
   @Says(promise = 9, value = "Of a KEY what 0 VERSION, 1 LAST READ, 2 LAST WRITTEN, 3 LAST OUT,")

@@ -176,6 +176,21 @@ final class TidyEdges extends Bench {
       late.commit(1);
       keyIs(late, 1, i + 1, 0, i == 0 ? 5 : 9, 4);
     }
+    // Nor does a writer without FIRST, nor one with a FIRST above its ENDED.
+    late.begin(1);
+    late.write(1, 1);
+    due(late.commit(1), 11);
+    keyIs(late, 1, 3, 0, 11, 4);
+    late.keep(6);
+    late.begin(1);
+    late.begin(2);
+    late.read(1, 6);
+    late.write(2, 6);
+    late.write(1, 1);
+    due(late.commit(1), 14);
+    due(late.commit(2), 15);
+    late.keep(0);
+    keyIs(late, 1, 4, 0, 14, 4);
     // An earlier one does: both began ahead of both commits, which a version at its end allows.
     Gate early = of("client;client;client;client;client;" + lines("version 1 999", 9));
     store(early, lines("version 1 999", 2) + ";keep 0");
