@@ -221,6 +221,29 @@ final class ReadWriteEdges extends Bench {
     due(y.slot(3, 0), 0);
   }
 
+  @Says({"VERSION as SEEN (1 more, if it HAS WRITTEN it)", "VERSION of each KEY that it HAS WRITTEN is 1 more (9999 at most)"})
+  static void readOfAnOwnWriteAtTheLastVersion() {
+    // The bound is one of VERSION, not of what read answers.
+    Gate x = of("client;client;" + lines("version 0 999", 11) + ";version 1 1");
+    x.begin(0);
+    due(x.write(0, 0), true);
+    due(x.read(0, 0), 10000);
+    due(x.seen(0, 0), 9999);
+    due(x.key(0, 0), 9999);
+    due(x.write(0, 0), true);
+    due(x.read(0, 0), 10000);
+    due(x.begin(1), 1);
+    due(x.read(1, 0), 9999);
+    due(x.commit(0), 3);
+    due(x.key(0, 0), 9999);
+    due(x.version(0, 0, false), 9999);
+    due(x.version(0, 0, true), 9999);
+    due(x.read(1, 0), 9999);
+    // Its VERSION is none other than that SEEN, so the next one may write it, too.
+    due(x.write(1, 0), true);
+    due(x.read(1, 0), 10000);
+  }
+
   @Says("it WAITS (nothing comes of it), if another RUNNING one HAS WRITTEN it")
   static void waits() {
     Gate x = fleet(3);

@@ -310,7 +310,7 @@ final class Refusals extends Bench {
     Gate x = scene.get();
     refusal.accept(x);
     due(x.end(1), false, name + ", end(1)");
-    if (fault != NONE) due(x.fault(), fault, name + ", fault()");
+    due(x.fault(), fault, name + ", fault()");
   }
 
   @Says(promise = 4, value = "IllegalArgumentException: it is wrong; UnsupportedOperationException: there are 12")
@@ -329,6 +329,7 @@ final class Refusals extends Bench {
     x.image();
     x.begin(0);
     for (int i = 0; i < 3; i++) x.commit(x.begin(1));
+    wrongLaw(x, "pay 3;foo", 6);
     return x;
   }
 
@@ -373,7 +374,9 @@ final class Refusals extends Bench {
     inScene(INDEX, x -> x.slot(8, 16), x -> x.slot(-1, -1), x -> x.key(10, 5), x -> x.key(-1, -1), x -> x.client(5, 9), x -> x.client(-1, -1));
     inScene(INDEX, x -> x.read(4, 10), x -> x.read(1, -1), x -> x.write(2, 10), x -> x.write(1, 10), x -> x.write(4, -1));
     inScene(INDEX, x -> x.dooms(8, 3, 0), x -> x.dooms(-1, -1, 0), x -> x.dooms(4, 0, 10), x -> x.dooms(1, 1, -1), x -> x.dooms(8, 3, 10));
+    inScene(INDEX, x -> x.dooms(0, 3, 10), x -> x.dooms(0, -1, -1), x -> x.dooms(4, 3, -1), x -> x.dooms(1, LOW, HIGH), x -> x.dooms(3, HIGH, LOW));
     inScene(ARGUMENT, x -> x.dooms(4, 3, 0), x -> x.dooms(1, -1, 9));
+    inScene(STATE, x -> x.dooms(4, 2, 10), x -> x.dooms(1, 2, LOW));
     inScene(INDEX, x -> x.clash(5, 5), x -> x.clash(-1, -1), x -> x.rests(5, 5), x -> x.rests(-1, -1));
   }
 

@@ -55,6 +55,27 @@ final class StoreEdges extends Bench {
     refused(UNSUPPORTED, y::store);
   }
 
+  @Says(promise = 6, value = "The first wrong byte of the latest text that was read; NONE without one")
+  static void faultOfAThirteenthText() {
+    Gate x = new Gate();
+    for (int i = 1; i <= 12; i++) x.store();
+    for (String right : new String[] {"keep 6", "", "  ", "client only;version 1 1;purse 9"}) {
+      wrongLaw(x, "pay 1;  pay 41", 12);
+      tell(x, right);
+      refused(UNSUPPORTED, x::store);
+      due(x.fault(), NONE);
+      refused(UNSUPPORTED, x::store);
+      due(x.fault(), NONE);
+      wrongStore(x, "keep 6;keep 7", 12);
+    }
+    due(x.count(0), 0);
+    due(x.count(3), 12);
+    due(x.count(4), NONE);
+    due(x.count(6), 3);
+    due(x.count(7), 0);
+    due(x.key(1, 0), 0);
+  }
+
   @Says("LINE { ; LINE }, at most 14")
   static void fourteenLines() {
     rightStore(lines("keep 1", 13));
