@@ -401,6 +401,26 @@ final class ClientEdges extends Bench {
     refused(ELEMENT, () -> x.client(4, -1));
   }
 
+  @Says(promise = 10, value = "7 ROUND, 8 SHARE")
+  static void roundAndShareOfAClient() {
+    Gate x = of("client writes 3;client reads 3;client writes 3;client writes 9");
+    int[] rounds = {0, 1, 2, 0};
+    for (int i = 0; i < 4; i++) due(x.client(i, 7), rounds[i]);
+    for (int i = 0; i < 4; i++) due(x.client(i, 8), 0);
+    int[] commits = {3, 0, 4, 1};
+    for (int i = 0; i < 4; i++) for (int n = 0; n < commits[i]; n++) x.commit(x.begin(i));
+    int[] shares = {37, 0, 50, 12};
+    for (int i = 0; i < 4; i++) due(x.client(i, 8), shares[i]);
+    // The client told now clashes with the writer of key 9 alone, and comes into the second round.
+    store(x, "client reads 9");
+    due(x.client(4, 7), 1);
+    due(x.client(4, 8), 0);
+    due(x.client(3, 7), 0);
+    Gate y = of("client reads 9;client writes 9");
+    due(y.client(0, 7), 0);
+    due(y.client(1, 7), 1);
+  }
+
   @Says("Sets are bits; of none they count for nothing")
   static void setsOfNone() {
     Gate x = of("client");

@@ -223,7 +223,7 @@ final class DangerEdges extends Bench {
     due(in.slot(0, 13), 3);
   }
 
-  @Says("(of both the one of more BLAME, P, if these are alike; with none ahead P)")
+  @Says("the one RUNNING of A and P (of both the one of more BLAME, P, if these are alike; with none ahead P) is ABORTED (3)")
   static void moreBlame() {
     // P is slot 1, A is slot 0; A is blamed by one less, alike, and by one more.
     String[] laws = {"spare 1 if slot<1", "spare 1", "blame 1 if slot<1", "blame 40 if slot>0", "spare 40;blame 5", "blame 2 if writes<1"};

@@ -92,6 +92,41 @@ final class HistoryEdges extends Bench {
     due(x.version(1, 9, false), 7);
   }
 
+  @Says("the CLIENT, ENDED, the KEYS at which it HAS LOOKED, with VERSION as SEEN, the KEYS that it HAS WRITTEN, with VERSION as it was by that")
+  static void whatARowTells() {
+    // LOOKED, not READ: a SAFE one, and who reads what it HAS WRITTEN, have these rows, too.
+    Gate x = of("client;client only;client;version 2 5;version 7 1");
+    x.begin(1);
+    due(x.slot(0, 14), 1);
+    x.read(0, 2);
+    x.read(0, 6);
+    due(x.slot(0, 5), 0);
+    x.begin(0);
+    x.write(1, 7);
+    x.read(1, 7);
+    due(x.slot(1, 5), 0);
+    x.commit(1);
+    x.commit(0);
+    int[][] rows = {{0, 3, 128, 128}, {1, 4, 68, 0}};
+    for (int row = 0; row < 2; row++) for (int what = 0; what < 4; what++) due(x.history(row, what), rows[row][what]);
+    due(x.version(0, 7, false), 1);
+    due(x.version(0, 7, true), 2);
+    due(x.version(1, 2, false), 5);
+    due(x.version(1, 6, false), 0);
+    due(x.version(1, 7, false), NONE);
+    due(x.version(1, 7, true), NONE);
+    // A row is of a commit: it stays when its SLOT is another one's, and its CLIENT's program is of no matter.
+    due(x.running() + x.finished(), 0);
+    x.begin(2);
+    x.write(0, 2);
+    due(x.count(9), 2);
+    for (int row = 0; row < 2; row++) for (int what = 0; what < 4; what++) due(x.history(row, what), rows[row][what]);
+    x.commit(0);
+    due(x.version(2, 2, true), 6);
+    due(x.version(2, 2, false), NONE);
+    due(x.version(1, 2, false), 5);
+  }
+
   @Says("it wrote a VERSION and the other one saw that or a later one")
   static void wroteAndSaw() {
     // Row 0 wrote key 0, row 1 saw that; row 2 saw key 1 ahead of row 0's write.

@@ -66,6 +66,14 @@ public final class LanguageTest {
     Constructor<?>[] made = SerialGate.class.getDeclaredConstructors();
     need(made.length == 1 && made[0].getParameterCount() == 0 && Modifier.isPublic(made[0].getModifiers()), "the constructor");
     need(Modifier.isFinal(SerialGate.class.getModifiers()), "the class is final");
+    theConstant();
+  }
+
+  private static void theConstant() {
+    int due = Modifier.PUBLIC | Modifier.STATIC | Modifier.FINAL;
+    Field[] fields = SerialGate.class.getFields();
+    need(fields.length == 1 && fields[0].getName().equals("NONE") && fields[0].getModifiers() == due, "the public fields");
+    need(fields[0].getType() == int.class && SerialGate.NONE == -1, "NONE");
   }
 
   private static String names(Class<?>[] types) {

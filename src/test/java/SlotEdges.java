@@ -349,6 +349,95 @@ final class SlotEdges extends Bench {
     due(x.pivots(), 0);
   }
 
+  @Says({"PIVOTS: RUNNING or FINISHED SLOTS that are pivots by the law's words, as bits",
+      "pivot: it has an EDGE to it (or INMAX above 0) and one from it (or OUTMIN above 0)"})
+  static void pivotsByWhatHasLeft() {
+    // Slot 1 has an edge to it and one from it; who is ahead of it, then who is behind it, LEAVES.
+    Gate x = of("client;client;client;client;keep 6", "blame 5 if pivot");
+    for (int i = 0; i < 4; i++) x.begin(i);
+    x.read(0, 0);
+    x.write(1, 0);
+    x.read(1, 1);
+    due(x.slot(1, 10), 10);
+    x.write(2, 1);
+    due(x.slot(1, 10), 15);
+    due(x.pivots(), 2);
+    due(x.commit(0), 5);
+    due(x.pivots(), 2);
+    x.keep(0);
+    slotIs(x, 1, 1, 1, 2, 0, 2, 2, 1, 4, 0, 0, 15, 1, 0, 5, 0, 0);
+    due(x.pivots(), 2);
+    x.keep(6);
+    x.commit(1);
+    due(x.commit(2), 7);
+    due(x.finished(), 6);
+    due(x.pivots(), 2);
+    x.undo();
+    x.undo();
+    due(x.slot(1, 0), 1);
+    // With INMAX alone, and with OUTMIN alone, it is none.
+    x.abort(2);
+    slotIs(x, 1, 1, 1, 2, 0, 2, 2, 1, 0, 0, 0, 10, 1, 0, 5, 0, 0);
+    due(x.pivots(), 0);
+    Gate y = of("client;client;client;client;keep 0", "blame 5 if pivot");
+    for (int i = 0; i < 3; i++) y.begin(i);
+    y.read(1, 1);
+    y.write(2, 1);
+    due(y.commit(2), 4);
+    slotIs(y, 1, 1, 1, 2, 0, 2, 2, 0, 0, 0, 4, 10, 1, 4, 0, 0, 0);
+    due(y.pivots(), 0);
+    // OUTMIN and an edge to it: who is ahead only reads and began ahead of FIRST, so there is no danger.
+    Gate z = of("client;client;client only;keep 0", "blame 5 if pivot");
+    z.begin(0);
+    z.begin(1);
+    z.read(0, 1);
+    z.write(1, 1);
+    z.begin(2);
+    z.commit(1);
+    z.read(2, 0);
+    z.write(0, 0);
+    slotIs(z, 0, 1, 0, 1, 0, 2, 2, 1, 0, 4, 4, 15, 1, 4, 0, 0, 0);
+    due(z.pivots(), 1);
+    z.commit(0);
+    due(z.pivots(), 0);
+  }
+
+  @Says("EDGES: from one SLOT to another one")
+  static void noEdgeToItself() {
+    Gate x = of("client;client;keep 6");
+    x.begin(0);
+    x.read(0, 3);
+    x.write(0, 3);
+    x.read(0, 3);
+    x.write(0, 3);
+    due(x.count(8), 0);
+    due(x.slot(0, 7) + x.slot(0, 8), 0);
+    x.begin(1);
+    x.commit(0);
+    due(x.count(8), 0);
+    // Each way is one, and a second time it is the same one.
+    x.read(1, 3);
+    x.read(1, 3);
+    due(x.count(8), 1);
+    due(x.slot(1, 7), 1);
+    due(x.slot(0, 8), 2);
+    due(x.slot(0, 7) + x.slot(1, 8), 0);
+  }
+
+  @Says(promise = 12, value = "A CLIENT begins: the SLOT")
+  static void whatBeginningAnswers() {
+    Gate x = of("client;client;client;client;client;keep 6");
+    int[] order = {3, 1, 4, 0, 2};
+    for (int i = 0; i < 5; i++) due(x.begin(order[i]), i);
+    for (int i = 0; i < 5; i++) due(x.client(order[i], 5), i);
+    for (int i = 1; i < 4; i++) {
+      x.commit(i);
+      due(x.begin(order[i]), 4 + i);
+    }
+    x.abort(0);
+    due(x.begin(3), 0);
+  }
+
   @Says(promise = 7, value = "Of a SLOT what 0 0 FREE, 1 RUNNING, 2 FINISHED, 1 its CLIENT, 2 BEGAN, 3 ENDED, 4 HAS LOOKED, 5 HAS READ, 6 HAS WRITTEN, as bits, 7 EDGES from it, 8 EDGES to it, as bits of SLOTS, 9 FIRST, 10 BLAME, 11 PAY, 12 OUTMIN, 13 INMAX,")
   static void whatOfASlot() {
     // Slot 7 reads what slot 0 has written, and writes what slot 0 has read; keys 0 and 9, slots 0 and 7.

@@ -189,7 +189,7 @@ final class TickEdges extends Bench {
     due(y.count(7), 999);
   }
 
-  @Says("TRIAL of N TICKS (0 to 60) from now (draws, too; nothing stays)")
+  @Says({"TRIAL of N TICKS (0 to 60) from now (draws, too; nothing stays)", "DONE of all then; PURSE then"})
   static void nothingStays() {
     // Not what a trial writes, reads, aborts or summarises either: the same ticks come out as a trial told, twice.
     Gate x = of("client reads 0 1 writes 0;client reads 0 1 writes 1;client reads 1 writes 0;client reads 0 1 only;keep 1", "pay 3 if retried;blame 2 if only");
