@@ -1368,6 +1368,8 @@ public final class SerialGate {
     /** The slots; sets of slots and of keys are bits. */
     private static final class Slots {
         static final int NO_DANGER = -2;
+        // When none runs, each end is below this.
+        private static final int AFTER_ALL = 0x7fffffff;
 
         int running = 0;
         int finished = 0;
@@ -1469,7 +1471,7 @@ public final class SerialGate {
         }
 
         int leastBegan() {
-            int least = Integer.MAX_VALUE;
+            int least = AFTER_ALL;
             for (int i = 0; i < SLOTS; i++) {
                 if ((running >> i & 1) != 0 && began[i] < least) {
                     least = began[i];

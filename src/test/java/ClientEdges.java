@@ -401,6 +401,24 @@ final class ClientEdges extends Bench {
     refused(ELEMENT, () -> x.client(4, -1));
   }
 
+  @Says("READS and WRITES: sets of KEYS; ONLY (it only reads) or not; RETRIES (0 at first), DONE (0 at first)")
+  static void clientsAtFirst() {
+    Gate x = of("client reads 2 7 only;client reads 2 writes 7 2");
+    int[][] facts = {{132, 0, 1, 0, 0}, {4, 132, 0, 0, 0}};
+    for (int i = 0; i < 2; i++) for (int what = 0; what < 5; what++) due(x.client(i, what), facts[i][what]);
+    x.abort(x.begin(1));
+    x.abort(x.begin(1));
+    x.commit(x.begin(0));
+    // A client told later has 0 of both, whatever the others have.
+    store(x, "client only");
+    int[][] later = {{132, 0, 1, 0, 1}, {4, 132, 0, 2, 0}, {0, 0, 1, 0, 0}};
+    for (int i = 0; i < 3; i++) for (int what = 0; what < 5; what++) due(x.client(i, what), later[i][what]);
+    // One that only reads may be told to read any KEY, and to write none.
+    x.begin(0);
+    due(x.read(0, 5), 0);
+    refused(STATE, () -> x.write(0, 2));
+  }
+
   @Says(promise = 10, value = "7 ROUND, 8 SHARE")
   static void roundAndShareOfAClient() {
     Gate x = of("client writes 3;client reads 3;client writes 3;client writes 9");

@@ -92,6 +92,27 @@ final class HistoryEdges extends Bench {
     due(x.version(1, 9, false), 7);
   }
 
+  @Says({"PURSE is PAY (as it was ahead of all that) more (9999 at most); a row of HISTORY;", "HISTORY: of the latest 12 commits"})
+  static void aRowForEachCommit() {
+    // By hand, by ticks, of one that only reads, of one that has done nothing; not by an abort, a text or a trial.
+    Gate x = of5(" only;keep 0");
+    x.commit(x.begin(4));
+    due(x.count(9), 1);
+    x.commit(x.begin(0));
+    due(x.count(9), 2);
+    x.abort(x.begin(1));
+    x.trial(60, false);
+    store(x, "keep 1");
+    due(x.count(9), 2);
+    due(x.ticks(60) > 12, true);
+    due(x.count(9), 12);
+    due(x.undo(), true);
+    due(x.count(9), 2);
+    due(x.history(0, 0), 4);
+    due(x.history(1, 0), 0);
+    for (int row = 0; row < 2; row++) due(x.serial(row), row);
+  }
+
   @Says("the CLIENT, ENDED, the KEYS at which it HAS LOOKED, with VERSION as SEEN, the KEYS that it HAS WRITTEN, with VERSION as it was by that")
   static void whatARowTells() {
     // LOOKED, not READ: a SAFE one, and who reads what it HAS WRITTEN, have these rows, too.

@@ -120,6 +120,7 @@ public final class LanguageTest {
       need(!Pattern.compile("\\b" + Pattern.quote(word) + "\\b").matcher(code).find(), "'" + word + "' stands in the source");
     }
     need(!Pattern.compile("\\w+Exact\\s*\\(").matcher(code).find(), "an Exact function stands in the source");
+    need(!Pattern.compile("\\b(Integer|Long|Math)\\.\\w+\\b(?!\\s*\\()").matcher(code).find(), "more than functions of Integer, Long or Math stand in the source");
     for (String sign : List.of("::", "\"\" +", "+ \"\"", "package ")) need(!code.contains(sign), "'" + sign + "' stands in the source");
     for (String line : code.lines().toList()) {
       need(!line.contains("->") || line.matches("\\s*(case|default)\\b.*"), "a lambda: " + line);

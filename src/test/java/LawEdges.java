@@ -423,6 +423,58 @@ final class LawEdges extends Bench {
     wrongLaw("pay 1 if age<1 2", 15);
   }
 
+  @Says("LINE { ; LINE }, at most 12: blame N [ if C ] | spare N [ if C ] | pay N [ if C ]")
+  static void eachLine() {
+    Gate x = plain();
+    // Without a condition a line holds; with one it holds of those of which that does.
+    due(law(x, "blame 7;spare 2;pay 4;blame 3 if slot<1;spare 1 if slot>0;pay 5 if only;pay 6 if not only"), 7);
+    due(x.slot(0, 10), 10 + 7 - 2 + 3);
+    due(x.slot(0, 11), 1 + 4 + 6);
+    due(x.slot(1, 10), 10 + 7 - 2 - 1);
+    due(x.slot(1, 11), 1 + 4 + 5);
+    wrongLaw(x, "blame if only", 6);
+    wrongLaw(x, "blame 3 only", 8);
+    wrongLaw(x, "blame 3 if", 10);
+    wrongLaw(x, "blame 3 if ; pay 1", 11);
+    wrongLaw(x, "blame 3 if only if only", 16);
+    wrongLaw(x, "blame 3 4", 8);
+    wrongLaw(x, "blame 3 spare 4", 8);
+    wrongLaw(x, "if only blame 3", 0);
+    wrongLaw(x, "keep 3", 0);
+    wrongLaw(x, "client", 0);
+    due(x.slot(0, 11), 11);
+  }
+
+  @Says({"PART: NUMBER | slot | client | age | reads | writes | retries | stamp", "Of a RUNNING or FINISHED SLOT"})
+  static void eachPart() {
+    // Slot 1 is of client 2, begun at 4 behind two aborts, and HAS READ three keys and WRITTEN one; the stamp is 5.
+    Gate x = of("client;client;client;keep 6");
+    x.begin(0);
+    for (int i = 0; i < 2; i++) x.abort(x.begin(2));
+    due(x.begin(2), 1);
+    for (int key = 0; key < 3; key++) x.read(1, key);
+    x.write(1, 9);
+    x.begin(1);
+    String[] parts = {"7", "slot", "client", "age", "reads", "writes", "retries", "stamp"};
+    int[] running = {7, 1, 2, 1, 3, 1, 2, 5};
+    int[] finished = {7, 1, 2, 2, 3, 1, 0, 6};
+    partsAre(x, parts, running);
+    due(x.commit(1), 6);
+    due(x.slot(1, 0), 2);
+    partsAre(x, parts, finished);
+    wrongLaw(x, "pay 1 if began<1", 9);
+    wrongLaw(x, "pay 1 if purse<1", 9);
+    wrongLaw(x, "pay 1 if only<1", 13);
+    wrongLaw(x, "pay 1 if 1<only", 11);
+  }
+
+  private static void partsAre(Gate x, String[] parts, int[] worths) {
+    for (int i = 0; i < parts.length; i++) {
+      holds(x, 1, parts[i] + "<" + (worths[i] + 1) + " and " + parts[i] + "+1>" + worths[i], true);
+      holds(x, 1, parts[i] + "<" + worths[i] + " or " + worths[i] + "<" + parts[i], false);
+    }
+  }
+
   @Says("only | pivot | retried |")
   static void eachOfThreeWords() {
     // Slot 0: client 0, a pivot. Slot 1: client 1, that only reads, retried. Slot 2: client 2, none of these.
